@@ -81,8 +81,12 @@ public final class PreCommitHall {
 
     private static final int MIX_SITES = 3;
     private static final int MIX_LIMIT = 4;
-    private static final int MIX_COUNT = 1728;
-    private static final int STAND_COUNT = 27648;
+    // A mix as a number: three states by sixes and eight sets of who is up.
+    private static final int MIX_NUMBERS = 1728;
+    // A mix with four ways to be parted and four phases.
+    private static final int STAND_NUMBERS = 27648;
+    // By all votes, weights and quorums no search has more than 1756.
+    private static final int MOST_STANDS = 4096;
     private static final int MOST_WAY = 64;
 
     private final Hall now;
@@ -554,7 +558,15 @@ public final class PreCommitHall {
         int key = now.mixKey();
         // The same votes, weights and quorums always lead to the same mixes.
         if (found.key != key) {
-            search.run(now, groups == 1, found);
+            search.start(now, found);
+            for (int i = 0; i < MOST_STANDS && search.goesOn(); i++) {
+                search.leadActs();
+                search.downActs();
+                search.finishActs();
+                if (groups == 1) {
+                    search.groupActs();
+                }
+            }
             found.key = key;
         }
         return found;
@@ -592,7 +604,7 @@ public final class PreCommitHall {
             n = sites;
             form = by;
             phase = 0;
-            log.size = 0;
+            log.clear();
             Arrays.fill(state, NEW);
             Arrays.fill(up, UP);
             Arrays.fill(group, 0);
@@ -1093,9 +1105,8 @@ public final class PreCommitHall {
 
         void goDown(int s) {
             up[s] = DOWN;
-            int there = upIn(group[s]);
             for (int other = 0; other < n; other++) {
-                if ((there >> other & 1) == 1) {
+                if (up[other] == UP && group[other] == group[s]) {
                     knows[other] &= ~(1 << s);
                 }
             }
@@ -1106,10 +1117,11 @@ public final class PreCommitHall {
 
         void comeUp(int s) {
             up[s] = UP;
-            int there = upIn(group[s]);
+            int there = 0;
             for (int other = 0; other < n; other++) {
-                if ((there >> other & 1) == 1) {
+                if (up[other] == UP && group[other] == group[s]) {
                     knows[other] |= 1 << s;
+                    there |= 1 << other;
                 }
             }
             knows[s] = there;
@@ -1144,43 +1156,53 @@ public final class PreCommitHall {
                 state[s] = states % STATES;
                 states /= STATES;
             }
-            log.size = 0;
+            log.clear();
         }
     }
 
     /** The lines that tell which site got which state. */
     private static final class Log {
+        // Used round and round, so that a new line needs no move of the others.
         final int[] rows;
+        int eldest;
         int size;
 
         Log() {
             rows = new int[MOST_LINES];
         }
 
+        void clear() {
+            eldest = 0;
+            size = 0;
+        }
+
         void take(Log other) {
+            eldest = other.eldest;
             size = other.size;
             System.arraycopy(other.rows, 0, rows, 0, MOST_LINES);
         }
 
         void add(int s, int was, int is) {
-            if (size >= MOST_LINES) {
-                System.arraycopy(rows, 1, rows, 0, MOST_LINES - 1);
-                size = MOST_LINES - 1;
+            rows[(eldest + size) % MOST_LINES] = s * 100 + was * 10 + is;
+            if (size < MOST_LINES) {
+                size++;
+            } else {
+                eldest = (eldest + 1) % MOST_LINES;
             }
-            rows[size] = s * 100 + was * 10 + is;
-            size++;
         }
 
         int lengthOf(int line) {
-            return 3 + wordBefore(line).length() + wordBehind(line).length();
+            int row = rowOf(line);
+            return 3 + wordOf(row / 10 % 10).length() + wordOf(row % 10).length();
         }
 
         int byteOf(int line, int i) {
+            int row = rowOf(line);
             if (i == 0) {
-                return '0' + rows[line] / 100;
+                return '0' + row / 100;
             }
-            String before = wordBefore(line);
-            String behind = wordBehind(line);
+            String before = wordOf(row / 10 % 10);
+            String behind = wordOf(row % 10);
             int between = 2 + before.length();
             if (i == 1 || i == between) {
                 return ' ';
@@ -1189,15 +1211,11 @@ public final class PreCommitHall {
                 return before.charAt(i - 2);
             }
             int at = i - between - 1;
-            return at < behind.length() ? behind.charAt(at) : NONE;
+            return at >= 0 && at < behind.length() ? behind.charAt(at) : NONE;
         }
 
-        private String wordBefore(int line) {
-            return wordOf(rows[line] / 10 % 10);
-        }
-
-        private String wordBehind(int line) {
-            return wordOf(rows[line] % 10);
+        private int rowOf(int line) {
+            return rows[(eldest + line) % MOST_LINES];
         }
 
         private static String wordOf(int state) {
@@ -1461,7 +1479,7 @@ public final class PreCommitHall {
 
         Mixes() {
             key = NONE;
-            steps = new int[MIX_COUNT];
+            steps = new int[MIX_NUMBERS];
             beside = new int[STATES];
             way = new int[MOST_WAY];
         }
@@ -1476,7 +1494,7 @@ public final class PreCommitHall {
         }
 
         int stepsTo(int mix) {
-            return mix >= 0 && mix < MIX_COUNT ? steps[mix] : NONE;
+            return mix >= 0 && mix < MIX_NUMBERS ? steps[mix] : NONE;
         }
 
         void note(Hall hall, int mix, int depth) {
@@ -1500,7 +1518,8 @@ public final class PreCommitHall {
     /** Goes through all that can come about, fewest acts first and of as few the least numbers first. */
     private static final class Search {
         private final Hall hall;
-        private final boolean[] seen;
+        // 32 stands an int, so that the room stays small.
+        private final int[] seen;
         private final int[] stands;
         private final int[] befores;
         private final int[] acts;
@@ -1511,62 +1530,43 @@ public final class PreCommitHall {
 
         Search() {
             hall = new Hall();
-            seen = new boolean[STAND_COUNT];
-            stands = new int[STAND_COUNT];
-            befores = new int[STAND_COUNT];
-            acts = new int[STAND_COUNT];
-            depths = new int[STAND_COUNT];
+            seen = new int[STAND_NUMBERS / 32];
+            stands = new int[MOST_STANDS];
+            befores = new int[MOST_STANDS];
+            acts = new int[MOST_STANDS];
+            depths = new int[MOST_STANDS];
         }
 
-        void run(Hall now, boolean withGroups, Mixes into) {
-            // Only what the last search has seen was marked.
-            for (int i = 0; i < size; i++) {
-                seen[stands[i]] = false;
-            }
+        void start(Hall now, Mixes into) {
+            Arrays.fill(seen, 0);
             size = 0;
+            from = NONE;
             found = into;
             found.clear();
             hall.open(now.n, now.form);
             hall.takeTerms(now);
-            from = NONE;
             reach(0);
-            for (from = 0; from < size; from++) {
-                leadActs();
-                downActs();
-                finishActs();
-                if (withGroups) {
-                    groupActs();
-                }
-            }
         }
 
-        private void leadActs() {
+        boolean goesOn() {
+            from++;
+            return from < size;
+        }
+
+        void leadActs() {
             int phase = stands[from] % 4;
-            if (phase == OVER) {
-                return;
-            }
-            int most = MIX_LIMIT;
+            int most = phase == OVER ? NONE - 1 : MIX_LIMIT;
             for (int k = NONE; k <= most; k++) {
-                if (leadAct(phase, k) < 0) {
-                    return;
+                hall.standBy(stands[from]);
+                if (lead(phase, k) < 0) {
+                    break;
                 }
                 reach((phase + 1) * 100 + k + 1);
-                if (k == NONE) {
-                    // A limit that is never reached is as none.
-                    most = Math.min(most, hall.sent);
-                }
+                most = worthTrying(k, most);
             }
         }
 
-        private int leadAct(int phase, int k) {
-            hall.standBy(stands[from]);
-            if (phase == 0) {
-                return hall.askAll(k);
-            }
-            return phase == 1 ? hall.prepareAll(k) : hall.commitAll(k);
-        }
-
-        private void downActs() {
+        void downActs() {
             for (int s = 0; s < hall.n; s++) {
                 hall.standBy(stands[from]);
                 if (hall.crashSite(s) >= 0) {
@@ -1575,7 +1575,7 @@ public final class PreCommitHall {
             }
         }
 
-        private void finishActs() {
+        void finishActs() {
             for (int s = 0; s < hall.n; s++) {
                 int most = MIX_LIMIT;
                 for (int k = NONE; k <= most; k++) {
@@ -1584,14 +1584,12 @@ public final class PreCommitHall {
                         break;
                     }
                     reach(500 + 10 * s + k + 1);
-                    if (k == NONE) {
-                        most = Math.min(most, hall.sent);
-                    }
+                    most = worthTrying(k, most);
                 }
             }
         }
 
-        private void groupActs() {
+        void groupActs() {
             for (int bits = 0; bits <= hall.all(); bits += 2) {
                 hall.standBy(stands[from]);
                 for (int s = 1; s < hall.n; s++) {
@@ -1601,12 +1599,29 @@ public final class PreCommitHall {
             }
         }
 
+        private int lead(int phase, int k) {
+            switch (phase) {
+                case 0: return hall.askAll(k);
+                case 1: return hall.prepareAll(k);
+                default: return hall.commitAll(k);
+            }
+        }
+
+        /** The act without a limit tells how many messages there are: a limit above that is as none. */
+        private int worthTrying(int k, int most) {
+            return k == NONE ? Math.min(most, hall.sent) : most;
+        }
+
         private void reach(int act) {
             int stand = hall.standNumber();
-            if (stand < 0 || stand >= STAND_COUNT || seen[stand]) {
+            if (stand < 0 || stand >= STAND_NUMBERS || size >= MOST_STANDS) {
                 return;
             }
-            seen[stand] = true;
+            int bit = 1 << stand % 32;
+            if ((seen[stand / 32] & bit) != 0) {
+                return;
+            }
+            seen[stand / 32] |= bit;
             stands[size] = stand;
             befores[size] = from;
             acts[size] = act;
@@ -1625,7 +1640,7 @@ public final class PreCommitHall {
             int at = size - 1;
             int length = Math.min(depths[at], MOST_WAY);
             found.wayLength = length;
-            for (int i = length - 1; i >= 0; i--) {
+            for (int i = length - 1; i >= 0 && at >= 0; i--) {
                 found.way[i] = acts[at];
                 at = befores[at];
             }
