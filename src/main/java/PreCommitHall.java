@@ -115,9 +115,9 @@ public final class PreCommitHall {
         tape = new byte[MOST_BYTES];
         text = new Script();
         draws = new Draws();
-        search = new Search();
         together = new Mixes();
         parted = new Mixes();
+        search = new Search(together);
     }
 
     // ---- sites
@@ -1528,7 +1528,8 @@ public final class PreCommitHall {
         private int from;
         private Mixes found;
 
-        Search() {
+        Search(Mixes first) {
+            found = first;
             hall = new Hall();
             seen = new int[STAND_NUMBERS / 32];
             stands = new int[MOST_STANDS];

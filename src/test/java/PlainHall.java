@@ -4,6 +4,7 @@ import java.util.Arrays;
 import java.util.List;
 import java.util.TreeMap;
 import java.util.TreeSet;
+import java.util.stream.IntStream;
 
 /** The document once more, written without a thought of room or speed, to compare answers with. */
 final class PlainHall {
@@ -842,7 +843,7 @@ final class PlainHall {
             }
             TreeMap<String, World> next = new TreeMap<>();
             for (var entry : level.entrySet()) {
-                for (int act = 100; act < 610; act++) {
+                for (int act : ACTS) {
                     World other = entry.getValue().copy();
                     if (tryAct(other, act, groups) < 0) {
                         continue;
@@ -859,6 +860,10 @@ final class PlainHall {
             level = next;
         }
     }
+
+    // All numbers of acts of three sites, and some that are none.
+    private static final int[] ACTS = IntStream.range(100, 610)
+        .filter(act -> act % 100 < 6 || act >= 500 && act < 526 || act >= 600).toArray();
 
     private int tryAct(World w, int act, int groups) {
         int kind = act / 100;

@@ -9,8 +9,8 @@ public final class PlainHallTest {
         "rescue", "would", "messages", "blocked", "could", "split", "stands", "sets", "ends", "years", "last",
         "fewest", "those", "mixes", "steps", "beside", "way", "feed", "script", "fault", "undo", "image", "restore"};
     private static final int[] OFTEN = {
-        2, 5, 3, 3, 9, 9, 5, 12, 12, 6, 12, 12,
-        8, 3, 3, 1, 2, 1, 1, 1, 4, 4, 2,
+        2, 4, 3, 3, 9, 9, 5, 9, 8, 6, 8, 7,
+        7, 3, 3, 2, 3, 3, 3, 1, 4, 4, 2,
         2, 2, 1, 1, 1, 1, 3, 3, 1, 3, 2, 2};
     private static final String[] SCRIPTS = {
         "ask", "prepare", "commit", "crash", "wake", "finish", "recover", "heal", "vote", "rescue", "yes", "no",
@@ -34,6 +34,40 @@ public final class PlainHallTest {
 
     private int site() {
         return random.nextInt(25) == 0 ? draw(-2, 6) : draw(0, plain.w.n() - 1);
+    }
+
+    /** Mostly a site for which the call can be. */
+    private int siteFor(String name) {
+        int s = site();
+        for (int i = 0; i < 12 && random.nextInt(8) > 0; i++) {
+            if (s >= 0 && s < plain.w.n() && suits(name, s)) {
+                return s;
+            }
+            s = site();
+        }
+        return s;
+    }
+
+    private boolean suits(String name, int s) {
+        int up = plain.w.at(s).up;
+        switch (name) {
+            case "crash": return up != 0;
+            case "wake": return up == 0;
+            case "recover": return up == 2;
+            case "finish":
+            case "ends": return up == 1 && plain.w.upWith(s).get(0) == s;
+            default: return true;
+        }
+    }
+
+    /** Mostly what can follow in this phase; a world in which nothing can be begins anew. */
+    private String nameFor(String name) {
+        boolean lead = name.equals("ask") || name.equals("prepare") || name.equals("commit");
+        if (lead && random.nextInt(8) > 0 && plain.w.phase < 3) {
+            return CALLS[4 + plain.w.phase];
+        }
+        boolean over = plain.w.sites.stream().allMatch(site -> site.decided());
+        return lead && over && random.nextInt(2) == 0 ? "begin" : name;
     }
 
     private int limit() {
@@ -132,11 +166,11 @@ public final class PlainHallTest {
             drawn -= OFTEN[kind];
             kind++;
         }
-        call(CALLS[kind]);
+        call(nameFor(CALLS[kind]));
     }
 
     private void call(String name) {
-        int s = site();
+        int s = siteFor(name);
         int k = limit();
         int a = draw(-1, 4);
         int b = draw(-1, 4);
