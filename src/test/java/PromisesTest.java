@@ -45,6 +45,14 @@ public final class PromisesTest {
         return text.toString();
     }
 
+    private static String allLines() {
+        StringBuilder text = new StringBuilder();
+        for (int i = 0; i < h.lines(); i++) {
+            text.append(line(i)).append('/');
+        }
+        return text.toString();
+    }
+
     private static void feedText(String text) {
         for (int at = 0; at < text.length(); at += 20) {
             int[] words = new int[5];
@@ -827,6 +835,44 @@ public final class PromisesTest {
         h.ask(-1);
         h.prepare(-1);
         due(h.split(), 0);
+        // Site 0 would be done, site 1 is gone.
+        h.begin(2, 0);
+        h.ask(-1);
+        h.part(1);
+        h.prepare(-1);
+        h.finish(1, -1);
+        due(states(), 25);
+        due(h.split(), 1);
+        h.begin(3, 0);
+        h.ask(-1);
+        h.prepare(1);
+        h.part(11);
+        h.finish(1, -1);
+        h.wake(0);
+        h.part(12);
+        due(states(), 244);
+        due(h.split(), 0);
+        // Site 1 would be gone, the others done.
+        h.begin(3, 0);
+        h.ask(-1);
+        h.part(10);
+        h.prepare(-1);
+        h.crash(0);
+        h.finish(2, -1);
+        due(states(), 214);
+        due(h.split(), 3);
+        // Sites 0 and 2 are gone, site 1 is done.
+        h.begin(3, 0);
+        h.ask(-1);
+        h.prepare(1);
+        h.part(1);
+        h.finish(1, -1);
+        h.finish(2, -1);
+        h.wake(0);
+        h.part(101);
+        due(h.recover(0), 5);
+        due(states(), 545);
+        due(h.split(), 5);
         // All decided: as they are.
         h.begin(3, 0);
         h.ask(-1);
@@ -937,6 +983,11 @@ public final class PromisesTest {
         due(h.years(0, 41, 0), -3);
         due(h.years(0, 1, 3), -2);
         due(h.years(0, 1, -1), -2);
+        // 9999: 7; x = 10872, of 3: 0; x = 29609, of 6: 5, without.
+        due(h.years(9999, 1, 2), 1);
+        due(h.years(9999, 1, 0), 555);
+        due(h.years(9999, 1, 1), 7);
+        due(h.years(9999, 40, 2) >= 0 ? 1 : 0, 1);
         // 8: ASK; then 709 * 8 + 4177 = 9849, of 6: 3, more than it sends.
         due(h.years(8, 1, 0), 111);
         due(h.years(8, 1, 1), 7);
@@ -1201,6 +1252,13 @@ public final class PromisesTest {
         faultOf("hea", 1, 0);
         faultOf("heals;", 1, 0);
         faultOf("yes;", 1, 0);
+        faultOf("z;", 1, 0);
+        faultOf("bsk;", 1, 0);
+        faultOf("a;", 1, 0);
+        faultOf("`;", 2, 0);
+        faultOf("{;", 2, 0);
+        faultOf("crash /;", 2, 6);
+        faultOf("crash :;", 2, 6);
         faultOf("Heal;", 2, 0);
         faultOf(" heal;", 2, 0);
         faultOf("1;", 2, 0);
@@ -1351,6 +1409,11 @@ public final class PromisesTest {
         due(line(0).equals(first) ? 1 : 0, 0);
         due(h.sign(60, 0), -2);
         due(line(0).equals("1 done gone") || line(0).equals("1 gone done") ? 1 : 0, 1);
+        String all = allLines();
+        h.begin(2, 0);
+        h.ask(-1);
+        h.undo(2);
+        due(allLines().equals(all) ? 1 : 0, 1);
         h.image(0);
         h.begin(3, 0);
         due(h.lines(), 0);
@@ -1358,6 +1421,7 @@ public final class PromisesTest {
         due(line(0).equals(first) ? 1 : 0, 1);
         h.restore(0);
         due(line(59).equals("2 gone done") ? 1 : 0, 1);
+        due(allLines().equals(all) ? 1 : 0, 1);
     }
 
     private static void undo() {
@@ -1438,6 +1502,43 @@ public final class PromisesTest {
         due(h.undo(1), 2);
         due(standing(), 22);
         due(states(), 0);
+    }
+
+    private static int firstCall(int kind) {
+        switch (kind) {
+            case 0: return h.begin(2, 1);
+            case 1: return h.vote(0, 0);
+            case 2: return h.weight(2, 3);
+            case 3: return h.quorum(3, 1);
+            case 4: return h.ask(-1);
+            case 5: return h.crash(0);
+            case 6: return h.part(1);
+            case 7: return h.finish(0, -1);
+            default: return runText("vote 2 no;heal;ask;ask;");
+        }
+    }
+
+    /** The first call of all is undone to what was at first. */
+    private static void undoFirst() {
+        for (int kind = 0; kind <= 8; kind++) {
+            fresh("37 undo of the first call, " + kind);
+            due(firstCall(kind) >= 0 ? 1 : 0, 1);
+            due(h.count(6), 1);
+            due(h.undo(1), 0);
+            due(h.count(0), 3);
+            due(h.count(1), 0);
+            due(h.count(2), 0);
+            due(h.count(3), 2);
+            due(h.count(4), 2);
+            due(h.count(5), 3);
+            due(states(), 0);
+            due(standing(), 111);
+            due(h.site(0, 3), 1);
+            due(h.site(2, 3), 1);
+            due(h.site(2, 2), 0);
+            due(h.site(1, 5), 7);
+            due(h.lines(), 0);
+        }
     }
 
     private static void imageAndRestore() {
@@ -1537,6 +1638,7 @@ public final class PromisesTest {
         linesAndSign();
         forgottenLines();
         undo();
+        undoFirst();
         imageAndRestore();
         count();
         System.out.println(looked + " answers, " + wrong + " not as due");
