@@ -99,8 +99,6 @@ public final class PreCommitHall {
     private final Script text;
     private final Draws draws;
     private final Search search;
-    private final Mixes together;
-    private final Mixes parted;
 
     public PreCommitHall() {
         now = new Hall();
@@ -115,9 +113,7 @@ public final class PreCommitHall {
         tape = new byte[MOST_BYTES];
         text = new Script();
         draws = new Draws();
-        together = new Mixes();
-        parted = new Mixes();
-        search = new Search(together);
+        search = new Search();
     }
 
     // ---- sites
@@ -554,7 +550,7 @@ public final class PreCommitHall {
     }
 
     private Mixes mixesBy(int groups) {
-        Mixes found = groups == 1 ? parted : together;
+        Mixes found = groups == 1 ? search.parted : search.together;
         int key = now.mixKey();
         // The same votes, weights and quorums always lead to the same mixes.
         if (found.key != key) {
@@ -1526,10 +1522,14 @@ public final class PreCommitHall {
         private final int[] depths;
         private int size;
         private int from;
+        final Mixes together;
+        final Mixes parted;
         private Mixes found;
 
-        Search(Mixes first) {
-            found = first;
+        Search() {
+            together = new Mixes();
+            parted = new Mixes();
+            found = together;
             hall = new Hall();
             seen = new int[STAND_NUMBERS / 32];
             stands = new int[MOST_STANDS];
