@@ -1,81 +1,5 @@
 /** Each promise by ordinary inputs, by the edges that the document names, and by wrong inputs. */
-public final class PromisesTest {
-    private static int wrong = 0;
-    private static int looked = 0;
-    private static String promise = "";
-    private static PreCommitHall h = new PreCommitHall();
-
-    private static void fresh(String name) {
-        promise = name;
-        h = new PreCommitHall();
-    }
-
-    private static void due(long got, long want) {
-        looked++;
-        if (got != want) {
-            wrong++;
-            StackTraceElement at = Thread.currentThread().getStackTrace()[2];
-            System.out.println(promise + ", line " + at.getLineNumber() + ": answered " + got + ", due is " + want);
-        }
-    }
-
-    /** States as digits, that of site 0 the highest. */
-    private static int states() {
-        int digits = 0;
-        for (int s = 0; s < h.count(0); s++) {
-            digits = digits * 10 + h.site(s, 0);
-        }
-        return digits;
-    }
-
-    /** Up, down, awake as digits, that of site 0 the highest. */
-    private static int standing() {
-        int digits = 0;
-        for (int s = 0; s < h.count(0); s++) {
-            digits = digits * 10 + h.site(s, 1);
-        }
-        return digits;
-    }
-
-    private static String line(int line) {
-        StringBuilder text = new StringBuilder();
-        for (int i = 0; i < h.sign(line, -1); i++) {
-            text.append((char) h.sign(line, i));
-        }
-        return text.toString();
-    }
-
-    private static String allLines() {
-        StringBuilder text = new StringBuilder();
-        for (int i = 0; i < h.lines(); i++) {
-            text.append(line(i)).append('/');
-        }
-        return text.toString();
-    }
-
-    private static void feedText(String text) {
-        for (int at = 0; at < text.length(); at += 20) {
-            int[] words = new int[5];
-            for (int i = 0; i < 20; i++) {
-                words[i / 4] = words[i / 4] << 8 | (at + i < text.length() ? text.charAt(at + i) : 0);
-            }
-            h.feed(words[0], words[1], words[2], words[3], words[4]);
-        }
-    }
-
-    private static int runText(String text) {
-        feedText(text);
-        return h.script(text.length());
-    }
-
-    private static void faultOf(String text, int fault, int place) {
-        due(runText(text), -30 - fault);
-        due(h.fault(0), fault);
-        due(h.fault(1), place);
-        due(h.fault(2), 0);
-        due(h.count(7), 0);
-    }
-
+public final class PromisesTest extends Probe {
     private static void newObject() {
         fresh("1");
         due(h.count(0), 3);
@@ -1409,11 +1333,11 @@ public final class PromisesTest {
         due(line(0).equals(first) ? 1 : 0, 0);
         due(h.sign(60, 0), -2);
         due(line(0).equals("1 done gone") || line(0).equals("1 gone done") ? 1 : 0, 1);
-        String all = allLines();
+        String all = log();
         h.begin(2, 0);
         h.ask(-1);
         h.undo(2);
-        due(allLines().equals(all) ? 1 : 0, 1);
+        due(log().equals(all) ? 1 : 0, 1);
         h.image(0);
         h.begin(3, 0);
         due(h.lines(), 0);
@@ -1421,7 +1345,7 @@ public final class PromisesTest {
         due(line(0).equals(first) ? 1 : 0, 1);
         h.restore(0);
         due(line(59).equals("2 gone done") ? 1 : 0, 1);
-        due(allLines().equals(all) ? 1 : 0, 1);
+        due(log().equals(all) ? 1 : 0, 1);
     }
 
     private static void undo() {
@@ -1641,9 +1565,6 @@ public final class PromisesTest {
         undoFirst();
         imageAndRestore();
         count();
-        System.out.println(looked + " answers, " + wrong + " not as due");
-        if (wrong != 0) {
-            System.exit(1);
-        }
+        end();
     }
 }
