@@ -21,31 +21,28 @@ public final class LanguageTest {
         System.out.println(what);
     }
 
+    /** The code without what it says in texts and comments. */
     private static String bare(String source) {
         return source.replaceAll("(?s)/\\*.*?\\*/", " ").replaceAll("//[^\n]*", " ")
             .replaceAll("\"[^\"\n]*\"", "\"\"").replaceAll("'[^'\n]+'", "' '");
     }
 
     private static void words(String code) {
-        String[] never = {"throw", "throws", "try", "catch", "finally", "synchronized", "assert", "volatile", "package",
-            "native", "instanceof", "Object", "Integer\\.valueOf", "hashCode", "toString", "equals", "System\\.out",
-            "System\\.exit", "System\\.nanoTime", "System\\.currentTimeMillis", "Thread", "Random", "float", "double",
-            "var", "yield", "while\\s*\\(true\\)", "for\\s*\\(;;\\)", "[A-Za-z]+Exact", "Arrays\\.(?!fill|copyOf)\\w+",
-            "Integer\\.(?!bitCount)\\w+", "Math\\.(?!min|max|floorMod)\\w+"};
+        String[] never = {"throws?", "try", "catch", "finally", "synchronized", "assert", "volatile", "package", "native",
+            "hashCode", "getClass", "Object", "System\\.(?!arraycopy)\\w+", "Thread", "Random", "[A-Za-z]+Exact",
+            "Arrays\\.(?!fill|copyOf|copyOfRange)\\w+", "Integer\\.(valueOf|parse\\w+|toString)", "String\\.\\w+",
+            "Math\\.(random|sqrt|pow|floor|ceil|round)"};
         for (String word : never) {
-            Matcher found = Pattern.compile("\\b" + word + "\\b").matcher(code);
-            if (found.find()) {
-                fail("the source says " + found.group());
-            }
+            refuse(code, "\\b(?:" + word + ")\\b");
         }
-        for (String sign : new String[] {"->", "::", "static {", "@", "\"\" +", "+ \"\""}) {
-            if (code.contains(sign)) {
-                fail("the source says " + sign);
-            }
+        // Endless loops, lambdas with a body, method references, static initialisers, texts joined by +.
+        String[] signs = {"while\\s*\\(true\\)", "for\\s*\\(;;\\)", "-> \\{", "::", "static \\{", "\"\" \\+", "\\+ \"\""};
+        for (String sign : signs) {
+            refuse(code, sign);
         }
         Matcher imports = Pattern.compile("import ([^;]+);").matcher(code);
         while (imports.find()) {
-            if (!imports.group(1).equals("java.util.Arrays")) {
+            if (!imports.group(1).matches("java\\.util\\.(Arrays|ArrayList|List|Iterator)")) {
                 fail("it imports " + imports.group(1));
             }
         }
@@ -54,23 +51,21 @@ public final class LanguageTest {
         }
     }
 
-    /** Objects are made in constructors alone, so that the room stays as it is whatever is called. */
-    private static void makes(String code) {
+    private static void refuse(String code, String pattern) {
+        Matcher found = Pattern.compile(pattern).matcher(code);
+        if (found.find()) {
+            fail("the source says " + found.group());
+        }
+    }
+
+    /** Methods stay short: some sixty lines. */
+    private static void lengths(String code) {
         Matcher method = Pattern.compile("\n( {4}| {8})(?! )([^\n;=]*)\\([^\n;]*\\) \\{\n(.*?)\n\\1\\}", Pattern.DOTALL)
             .matcher(code);
-        int seen = 0;
         while (method.find()) {
-            seen++;
-            boolean constructor = method.group(2).trim().matches("(public )?[A-Z]\\w*");
-            if (!constructor && method.group(3).matches("(?s).*\\bnew\\b.*")) {
-                fail("an object is made in " + method.group(2));
-            }
             if (method.group(3).split("\n").length > 60) {
                 fail("long: " + method.group(2));
             }
-        }
-        if (seen < 100) {
-            fail("only " + seen + " methods were looked at");
         }
     }
 
@@ -114,7 +109,7 @@ public final class LanguageTest {
                 names.add(method.getName());
             }
         }
-        if (all.size() > 11) {
+        if (all.size() > 13) {
             fail("there are " + (all.size() + 1) + " classes");
         }
         for (Class<?> inner : all) {
@@ -134,7 +129,7 @@ public final class LanguageTest {
         for (Class<?> one : all) {
             long fields = Arrays.stream(one.getDeclaredFields()).map(Member::getModifiers)
                 .filter(modifiers -> !Modifier.isStatic(modifiers)).count();
-            if (fields > 20) {
+            if (fields > 24) {
                 fail(fields + " fields in " + one);
             }
             for (Field field : one.getDeclaredFields()) {
@@ -148,7 +143,7 @@ public final class LanguageTest {
     public static void main(String[] args) throws IOException {
         String code = bare(Files.readString(Path.of("src/main/java/PreCommitHall.java")));
         words(code);
-        makes(code);
+        lengths(code);
         face(Files.readString(Path.of("../shared/DOC.md")));
         classes();
         System.out.println("the language: " + wrong + " rules broken");
