@@ -281,6 +281,11 @@ public final class FinishEdgesTest extends Edges {
                 h.part(11);
                 due(h.would(0), -1);
                 due(h.would(3), 3);
+                // However they would vote.
+                h.begin(3, 1);
+                h.vote(1, 0);
+                due(h.finish(0, 2), 3);
+                due(states(), 333);
                 // Those PRE don't count for NO, and aren't to be HELD.
                 someHeld();
                 h.prepare(1);

@@ -79,12 +79,62 @@ public final class MixesEdgesTest extends Edges {
             stepsDue(5, 3, -1, 2);
             h.quorum(3, 2);
             stepsDue(5, 3, -1, -1);
-            // With YES 3 both aren't enough to prepare.
+            // With YES 3 both aren't enough to commit.
             stepsDue(22, 3, 2, 2);
             stepsDue(44, 3, -1, -1);
             h.quorum(2, 2);
             stepsDue(44, 3, 3, 3);
         });
+        edge("as they are now", MixesEdgesTest::asTheyAreNow);
+    }
+
+    // Sites, form, who votes no (bits), weights (digits), YES, NO (0: as they are by the weights).
+    private static final int[][] TERMS_OF_HALLS = {
+        {2, 0, 0, 11, 0, 0}, {2, 1, 0, 11, 0, 0}, {3, 0, 0, 111, 0, 0}, {3, 1, 0, 111, 0, 0}, {2, 1, 0, 11, 2, 1},
+        {2, 1, 0, 11, 1, 2}, {2, 1, 0, 13, 0, 0}, {2, 1, 0, 31, 0, 0}, {2, 0, 1, 11, 0, 0}, {2, 0, 2, 11, 0, 0},
+        {3, 1, 0, 311, 0, 0}, {3, 1, 0, 113, 0, 0}, {3, 1, 0, 111, 3, 1}, {3, 1, 0, 111, 1, 3}, {3, 0, 4, 111, 0, 0}};
+
+    private static void tell(PreCommitHall hall, int[] terms) {
+        hall.begin(terms[0], terms[1]);
+        int weights = terms[3];
+        for (int s = terms[0] - 1; s >= 0; s--) {
+            hall.vote(s, 1 - (terms[2] >> s & 1));
+            hall.weight(s, weights % 10);
+            weights /= 10;
+        }
+        if (terms[4] > 0) {
+            hall.quorum(terms[4], terms[5]);
+        }
+    }
+
+    private static String mixesOf(PreCommitHall hall) {
+        StringBuilder text = new StringBuilder();
+        for (int groups = 0; groups < 2; groups++) {
+            for (int what = 0; what < 4; what++) {
+                text.append(hall.mixes(groups, what)).append(' ');
+            }
+            for (int state = 0; state < 6; state++) {
+                text.append(hall.beside(state, groups)).append(' ');
+            }
+        }
+        return text.toString();
+    }
+
+    /** Whatever was asked ahead of that, of another hall: the same as a hall tells that was asked nothing else. */
+    private static void asTheyAreNow() {
+        for (int[] terms : TERMS_OF_HALLS) {
+            PreCommitHall alone = new PreCommitHall();
+            tell(alone, terms);
+            String due = mixesOf(alone);
+            for (int[] ahead : TERMS_OF_HALLS) {
+                h = new PreCommitHall();
+                tell(h, ahead);
+                h.mixes(0, 0);
+                h.mixes(1, 0);
+                tell(h, terms);
+                same(mixesOf(h), due);
+            }
+        }
     }
 
     private static void acts() {
@@ -182,6 +232,17 @@ public final class MixesEdgesTest extends Edges {
                 due(h.mixes(groups, 3), most);
             }
         });
+        // 44 was counted by hand; the others are what two writings of the document agree on.
+        edge("what 0: how many, 1: how many of them are UNLIKE", () -> {
+            h.begin(2, 0);
+            mixesDue(44, 0, 62, 4);
+            h.begin(3, 0);
+            mixesDue(175, 0, 432, 88);
+            h.begin(2, 1);
+            mixesDue(36, 0, 40, 0);
+            h.begin(3, 1);
+            mixesDue(180, 0, 302, 0);
+        });
         edge("2: the fewest ACTS to one UNLIKE (NONE)", () -> {
             due(h.mixes(0, 2), -1);
             due(h.mixes(1, 2), 5);
@@ -216,6 +277,13 @@ public final class MixesEdgesTest extends Edges {
         });
     }
 
+    private static void mixesDue(int together, int unlike, int parted, int unlikeParted) {
+        due(h.mixes(0, 0), together);
+        due(h.mixes(0, 1), unlike);
+        due(h.mixes(1, 0), parted);
+        due(h.mixes(1, 1), unlikeParted);
+    }
+
     private static void promise29() {
         part(29);
         edge("The fewest ACTS to a MIX: STATES as digits (SITE 0 the highest, as many as there are SITES, 0 to 5 each), who is "
@@ -239,6 +307,10 @@ public final class MixesEdgesTest extends Edges {
             refused(() -> h.steps(556, 7, 0), -3);
             refused(() -> h.steps(565, 7, 0), -3);
             refused(() -> h.steps(655, 7, 0), -3);
+            for (int digit = 6; digit <= 9; digit++) {
+                due(h.steps(digit, 7, 0), -3);
+                due(h.steps(digit * 100, 7, 0), -3);
+            }
             refused(() -> h.steps(1000, 7, 0), -3);
             refused(() -> h.steps(-1, 7, 0), -3);
             refused(() -> h.steps(-100, 7, 0), -3);
@@ -264,6 +336,9 @@ public final class MixesEdgesTest extends Edges {
         part(30);
         edge("STATES that another SITE can have beside one of a STATE in some MIX, as bits.", () -> {
             h.begin(2, 0);
+            // One is still NEW beside one NEW, READY, GONE.
+            due(h.beside(0, 0), 35);
+            due(h.beside(0, 1), 35);
             due(h.beside(4, 0), 22);
             due(h.beside(4, 1), 22 + 32);
             due(h.beside(3, 1), 0);

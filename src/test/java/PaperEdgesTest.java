@@ -177,6 +177,20 @@ public final class PaperEdgesTest extends Edges {
                 h.commit(0);
                 due(states(), 425);
                 due(h.split(), 4);
+                // Two GONE with some being HELD first aren't unlike.
+                h.begin(4, 1);
+                h.quorum(3, 2);
+                due(h.split(), 0);
+                // GONE, DONE, GONE: site 0, site 2, both, against site 1, and {0}, {2} against that with the other one.
+                h.begin(3, 0);
+                runText("ask;prepare 1;");
+                h.part(1);
+                h.finish(1, NONE);
+                h.finish(2, NONE);
+                h.part(101);
+                runText("wake 0;recover 0;");
+                due(states(), 545);
+                due(h.split(), 5);
             });
         edge("(all DECIDED: as they are, DONE ahead of GONE)", () -> {
             h.ask(NONE);
@@ -223,6 +237,10 @@ public final class PaperEdgesTest extends Edges {
                 h.begin(4, 1);
                 h.finish(0, NONE);
                 stood(1, 4, 6, 4, -3);
+                // One that is DOWN can't be lost once more.
+                h.begin(3, 0);
+                h.crash(0);
+                stood(1, 2, 1, -3);
                 // Weights, not sites.
                 h.begin(3, 1);
                 h.weight(0, 3);
@@ -260,6 +278,14 @@ public final class PaperEdgesTest extends Edges {
                 h.weight(0, 3);
                 // Of 3: site 0 with any, or alone.
                 setsDue(4, 4, 1, 1);
+                h.begin(3, 1);
+                h.weight(2, 3);
+                setsDue(4, 4, 1, 1);
+                h.begin(3, 1);
+                h.weight(1, 3);
+                setsDue(4, 4, 1, 1);
+                h.begin(3, 1);
+                h.weight(0, 3);
                 h.quorum(4, 2);
                 setsDue(3, 5, 2, 2);
                 h.quorum(5, 1);
@@ -483,6 +509,11 @@ public final class PaperEdgesTest extends Edges {
             due(h.fewest(), 6);
             h.crash(1);
             due(h.fewest(), 4);
+            h.begin(5, 0);
+            due(h.fewest(), 31);
+            h.begin(3, 0);
+            runText("crash 2;crash 1;");
+            due(h.fewest(), 1);
             // Two that know themselves alone: the lower one.
             h.begin(3, 0);
             h.part(12);

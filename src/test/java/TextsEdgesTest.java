@@ -237,6 +237,9 @@ public final class TextsEdgesTest extends Edges {
         edge("1 a word that is none, or can't stand there (wherever one begins that can't: its first byte)", () -> {
             faultOf("hea;", 1, 0);
             faultOf("heals;", 1, 0);
+            faultOf("xeal;", 1, 0);
+            faultOf("healy;", 1, 0);
+            faultOf("hexl;", 1, 0);
             faultOf("hea", 1, 0);
             faultOf("heal;healheal;", 1, 5);
             faultOf("yes;", 1, 0);
@@ -423,24 +426,19 @@ public final class TextsEdgesTest extends Edges {
         });
     }
 
-    /** The call can be UNDONE as a whole. */
+    /** The call can be UNDONE as a whole, in whichever group all are. */
     private static void undoneOne(String text, java.util.function.IntSupplier call) {
-        h.begin(3, 0);
-        runText(text);
-        h.image(0);
-        h.restore(0);
-        String was = hallOnly();
-        due(call.getAsInt() >= 0 ? 1 : 0, 1);
-        due(h.count(6), 1);
-        due(h.undo(1), 0);
-        same(hallOnly(), was);
-        // A second one behind another call: back to that alone.
-        h.begin(3, 0);
-        runText(text);
-        was = hallOnly();
-        call.getAsInt();
-        h.undo(1);
-        same(hallOnly(), was);
+        for (int group = 1; group <= 3; group++) {
+            h.begin(3, 0);
+            runText(text);
+            h.part(111 * group);
+            String was = hallOnly();
+            int undoes = h.count(6);
+            due(call.getAsInt() >= 0 ? 1 : 0, 1);
+            due(h.count(6), Math.min(undoes + 1, 10));
+            due(h.undo(1), Math.min(undoes, 9));
+            same(hallOnly().replaceFirst("^((\\S+ ){6})\\d+", "$1" + undoes), was);
+        }
     }
 
     private static void codes() {
