@@ -11,19 +11,6 @@ public final class FinishEdgesTest extends Edges {
         h.part(0);
     }
 
-    /** Site 0 is DONE, 1 PRE, 2 GONE; site 0 is UP again, all in one group. */
-    private static void doneAndGone() {
-        h.begin(3, 0);
-        h.ask(NONE);
-        h.part(1);
-        h.prepare(NONE);
-        h.finish(2, NONE);
-        h.commit(0);
-        h.wake(0);
-        h.recover(0);
-        h.part(0);
-    }
-
     private static void finishers() {
         edge("a SITE that is UP, the lowest such one of its GROUP;", () -> {
             refused(() -> h.finish(1, NONE), -5);

@@ -169,12 +169,7 @@ public final class PaperEdgesTest extends Edges {
                 runText("ask;prepare 0;");
                 due(h.split(), 0);
                 // DONE, PRE, GONE: {0} with {2}, {1, 2}; {1}, {0, 1} with {2}.
-                h.begin(3, 0);
-                h.ask(NONE);
-                h.part(1);
-                h.prepare(NONE);
-                h.finish(2, NONE);
-                h.commit(0);
+                doneDownAndGone();
                 due(states(), 425);
                 due(h.split(), 4);
                 // Two GONE with some being HELD first aren't unlike.
@@ -526,7 +521,15 @@ public final class PaperEdgesTest extends Edges {
             h.recover(1);
             same(known(), "7 2 4");
             due(h.fewest(), 2);
-            // Fewer ones ahead of a lesser number.
+            // Fewer ones ahead of a lesser number: 0 and 1 have it together, 2 alone.
+            h.begin(3, 0);
+            h.crash(2);
+            h.wake(2);
+            h.part(1);
+            h.recover(2);
+            same(known(), "3 3 4");
+            due(h.last(3), 3);
+            due(h.fewest(), 4);
             h.begin(4, 0);
             runText("crash 2;crash 1;crash 0;");
             due(h.fewest(), 8);
@@ -542,11 +545,7 @@ public final class PaperEdgesTest extends Edges {
     private static void promise27() {
         part(27);
         edge("Which SITES are DONE (what 0), GONE (1), UP (2), DECIDED and UP (3), as bits. -2.", () -> {
-            h.ask(NONE);
-            h.part(1);
-            h.prepare(NONE);
-            h.finish(2, NONE);
-            h.commit(0);
+            doneDownAndGone();
             due(states(), 425);
             due(h.those(0), 1);
             due(h.those(1), 4);

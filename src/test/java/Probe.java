@@ -126,6 +126,24 @@ abstract class Probe {
         return h.script(text.length());
     }
 
+    /** Site 0 is DONE and DOWN, 1 PRE, 2 GONE in a group of its own. */
+    protected static void doneDownAndGone() {
+        h.begin(3, 0);
+        h.ask(NONE);
+        h.part(1);
+        h.prepare(NONE);
+        h.finish(2, NONE);
+        h.commit(0);
+    }
+
+    /** Site 0 is DONE, 1 PRE, 2 GONE; all are UP, in one group. */
+    protected static void doneAndGone() {
+        doneDownAndGone();
+        h.wake(0);
+        h.recover(0);
+        h.part(0);
+    }
+
     /** The text has this fault at this place: THE TAPE is empty then, nothing else is changed. */
     protected static void faultOf(String text, int fault, int at) {
         String was = hallOnly();

@@ -1172,60 +1172,6 @@ public final class PromisesTest extends Probe {
         due(runText("wake 9;"), 0);
         due(runText("wake 1;recover 1;recover 1;"), 2);
         due(runText("finish 0 9;"), 1);
-        faultOf("heal", 2, 4);
-        faultOf("hea", 1, 0);
-        faultOf("heals;", 1, 0);
-        faultOf("yes;", 1, 0);
-        faultOf("z;", 1, 0);
-        faultOf("bsk;", 1, 0);
-        faultOf("a;", 1, 0);
-        faultOf("`;", 2, 0);
-        faultOf("{;", 2, 0);
-        faultOf("crash /;", 2, 6);
-        faultOf("crash :;", 2, 6);
-        faultOf("Heal;", 2, 0);
-        faultOf(" heal;", 2, 0);
-        faultOf("1;", 2, 0);
-        faultOf("heal;;", 2, 5);
-        faultOf("heal; heal;", 2, 5);
-        faultOf("heal ;", 2, 4);
-        faultOf("rescue 1;", 2, 6);
-        faultOf("ask ;", 2, 4);
-        faultOf("ask  1;", 2, 4);
-        faultOf("ask", 2, 3);
-        faultOf("ask ", 2, 4);
-        faultOf("ask heal;", 1, 4);
-        faultOf("ask 1 ;", 2, 5);
-        faultOf("ask 12;", 2, 5);
-        faultOf("ask 1a;", 1, 5);
-        faultOf("commit1;", 2, 6);
-        faultOf("prepare -;", 2, 8);
-        faultOf("crash;", 2, 5);
-        faultOf("crash 1 2;", 2, 7);
-        faultOf("recover x;", 1, 8);
-        faultOf("finish;", 2, 6);
-        faultOf("finish 1 ;", 2, 9);
-        faultOf("finish 1 no;", 1, 9);
-        faultOf("finish 1 2 3;", 2, 10);
-        faultOf("vote 1;", 2, 6);
-        faultOf("vote 1 ;", 2, 7);
-        faultOf("vote 1 ye;", 1, 7);
-        faultOf("vote 1 nos;", 1, 7);
-        faultOf("vote 1 heal;", 1, 7);
-        faultOf("vote 1no;", 1, 6);
-        faultOf("vote 1 no", 2, 9);
-        faultOf("vote 1 no ;", 2, 9);
-        faultOf("vote yes;", 1, 5);
-        faultOf("wake \u00b1;", 2, 5);
-        faultOf("wake \u0000;", 2, 5);
-        faultOf("heal\u00e1;", 2, 4);
-        String twelve = "heal;heal;heal;heal;heal;heal;heal;heal;heal;heal;heal;heal;";
-        due(runText(twelve), 12);
-        faultOf(twelve + "heal;", 3, 60);
-        faultOf(twelve + "vote", 3, 60);
-        faultOf(twelve + "yes;", 1, 60);
-        faultOf(twelve + "hea", 1, 60);
-        faultOf(twelve + ";", 2, 60);
         // A text with a fault does nothing, not even what stands ahead of it.
         h.begin(3, 0);
         faultOf("crash 1;oops;", 1, 8);
@@ -1294,58 +1240,6 @@ public final class PromisesTest extends Probe {
         due(line(2).equals("0 held gone") ? 1 : 0, 1);
         h.undo(1);
         due(h.lines(), 0);
-    }
-
-    /** Sites 1 and 2 are made done by site 0 and gone by site 3 again and again, as site 4 is never reached. */
-    private static void forgottenLines() {
-        fresh("35 lines: the eldest are forgotten");
-        h.begin(5, 0);
-        runText("ask;");
-        h.part(11);
-        due(h.prepare(-1), 2);
-        due(h.commit(2), 3);
-        due(h.finish(3, 0), 0);
-        due(states(), 44451);
-        String first = "0 new ready";
-        due(line(0).equals(first) ? 1 : 0, 1);
-        int lines = h.lines();
-        due(lines, 5 + 3 + 3 + 1);
-        for (int turn = 0; turn < 16; turn++) {
-            // Site 3 comes up among 1, 2 and 4, that they know it; then they go down, and it alone is the last.
-            h.part(0);
-            h.wake(3);
-            h.recover(3);
-            runText("crash 1;crash 2;crash 4;crash 3;wake 3;recover 3;crash 3;");
-            runText("wake 1;wake 2;wake 3;wake 4;");
-            due(h.rescue(2), 0);
-            due(states(), 45551);
-            lines = Math.min(60, lines + 2);
-            due(h.lines(), lines);
-            due(line(lines - 1).equals("2 done gone") ? 1 : 0, 1);
-            due(line(lines - 2).equals("1 done gone") ? 1 : 0, 1);
-            runText("wake 0;recover 0;finish 0 2;");
-            due(states(), 44451);
-            lines = Math.min(60, lines + 2);
-            due(h.lines(), lines);
-            due(line(lines - 1).equals("2 gone done") ? 1 : 0, 1);
-        }
-        due(lines, 60);
-        due(line(0).equals(first) ? 1 : 0, 0);
-        due(h.sign(60, 0), -2);
-        due(line(0).equals("1 done gone") || line(0).equals("1 gone done") ? 1 : 0, 1);
-        String all = log();
-        h.begin(2, 0);
-        h.ask(-1);
-        h.undo(2);
-        due(log().equals(all) ? 1 : 0, 1);
-        h.image(0);
-        h.begin(3, 0);
-        due(h.lines(), 0);
-        h.ask(0);
-        due(line(0).equals(first) ? 1 : 0, 1);
-        h.restore(0);
-        due(line(59).equals("2 gone done") ? 1 : 0, 1);
-        due(log().equals(all) ? 1 : 0, 1);
     }
 
     private static void undo() {
@@ -1560,7 +1454,6 @@ public final class PromisesTest extends Probe {
         script();
         fault();
         linesAndSign();
-        forgottenLines();
         undo();
         undoFirst();
         imageAndRestore();

@@ -43,12 +43,8 @@ public final class TextsEdgesTest extends Edges {
             h.ask(NONE);
             h.finish(0, NONE);
             same(line(7), "3 ready gone");
-            h.begin(3, 0);
-            h.ask(NONE);
-            h.part(1);
-            h.prepare(NONE);
-            h.finish(2, NONE);
-            runText("commit 0;wake 0;recover 0;heal;finish 0;");
+            doneAndGone();
+            h.finish(0, NONE);
             same(line(8), "2 gone done");
         });
         edge("It has 60 lines at most (eldest are forgotten).", TextsEdgesTest::sixtyLines);
